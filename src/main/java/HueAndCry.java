@@ -21,7 +21,7 @@ public final class HueAndCry {
     private static final int NOT_ENOUGH = -3;
     // 24 parishes have no more rows of three than these.
     private static final int MOST_ROWS = 2024;
-    private static final int MOST_WAYS = 128;
+    private static final int MOST_WAYS = 32;
 
     private static final int TRAITS = 6;
     private static final int GREATEST_NUMBER = 31;
