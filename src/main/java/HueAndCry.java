@@ -39,20 +39,20 @@ public final class HueAndCry {
     private static final int MOST_CLAIMS = 12;
     private static final int GREATEST_REWARD = 1000000;
 
+    private final Patrol patrol;
+    private final Chase chase;
     private final Land land;
     private final Facts facts;
-    private final Chase chase;
-    private final Patrol patrol;
     private final Crowd crowd;
     private final Tape tape;
     private final Court court;
     private final Row told;
 
     public HueAndCry() {
-        land = new Land();
-        facts = new Facts();
-        chase = new Chase(land, facts);
-        patrol = new Patrol(land, chase);
+        patrol = new Patrol();
+        chase = patrol.chase;
+        land = chase.land;
+        facts = chase.facts;
         crowd = new Crowd();
         tape = new Tape();
         court = new Court();
@@ -183,7 +183,7 @@ public final class HueAndCry {
         if (land.start == NONE) {
             return 0;
         }
-        return chase.someAgrees(NONE) ? NONE : chase.menders();
+        return chase.someAgrees() ? NONE : chase.menders();
     }
 
     public int watch(int t, int u) {
@@ -457,8 +457,8 @@ public final class HueAndCry {
 
     /** Where he may be at each hour, as far as facts allow. */
     private static final class Chase {
-        private final Land land;
-        private final Facts facts;
+        private final Land land = new Land();
+        private final Facts facts = new Facts();
         /** The parishes at which facts let him be, hour by hour. */
         private final int[] allowed = new int[HOURS];
         /** The hours, as bits, at which facts forbid that he is on a road. */
@@ -467,11 +467,6 @@ public final class HueAndCry {
         private final int[] reached = new int[HOURS];
         /** The parishes from which he can go on to the last hour, hour by hour. */
         private final int[] onward = new int[HOURS];
-
-        Chase(Land land, Facts facts) {
-            this.land = land;
-            this.facts = facts;
-        }
 
         int mayBe(int hour) {
             heed(hour, NONE);
@@ -498,21 +493,43 @@ public final class HueAndCry {
             return NONE;
         }
 
-        boolean someAgrees(int spared) {
-            heed(LAST_HOUR, spared);
+        boolean someAgrees() {
+            heed(LAST_HOUR, NONE);
             lookOnward(0);
             return (onward[0] & land.startBit()) != 0;
         }
 
         /** The facts, as bits, without one of which some journey agrees. */
         long menders() {
+            heed(LAST_HOUR, NONE);
+            spread(0, LAST_HOUR, 0);
+            lookOnward(0);
             long found = 0;
             for (int fact = 0; fact < facts.size; fact++) {
-                if (!facts.struck[fact] && someAgrees(fact)) {
+                if (!facts.struck[fact] && mends(fact)) {
                     found |= 1L << fact;
                 }
             }
             return found;
+        }
+
+        /** A fact bears on its hour alone: what was reached before it and is onward after it stands. */
+        private boolean mends(int fact) {
+            heed(LAST_HOUR, fact);
+            int hour = facts.hours[fact];
+            return (cameAt(hour) & goesOnAt(hour)) != 0 || isUnderWay(hour);
+        }
+
+        /** Whether some journey that agrees is on a road at an hour. */
+        private boolean isUnderWay(int hour) {
+            for (int road = 0; road < land.roads; road++) {
+                for (int left = Math.max(0, hour - land.hours[road] + 1); left < hour; left++) {
+                    if ((reached[left] & departuresBy(road, left)) != 0) {
+                        return true;
+                    }
+                }
+            }
+            return false;
         }
 
         /** Takes in the facts of hours up to the last one, but for the spared. */
@@ -554,17 +571,19 @@ public final class HueAndCry {
         /** Fills what he may have reached, for some hours, keeping off the shunned parishes. */
         void spread(int first, int last, int shunned) {
             for (int hour = first; hour <= last; hour++) {
-                int come = hour == 0 ? land.startBit() : reached[hour - 1] | arrivals(hour);
-                reached[hour] = come & allowed[hour] & ~shunned;
+                reached[hour] = cameAt(hour) & ~shunned;
             }
         }
 
-        private int arrivals(int hour) {
-            int found = 0;
-            for (int road = 0; road < land.roads; road++) {
-                found |= arrivalsBy(road, hour);
+        private int cameAt(int hour) {
+            if (hour == 0) {
+                return land.startBit() & allowed[hour];
             }
-            return found;
+            int come = reached[hour - 1];
+            for (int road = 0; road < land.roads; road++) {
+                come |= arrivalsBy(road, hour);
+            }
+            return come & allowed[hour];
         }
 
         private int arrivalsBy(int road, int hour) {
@@ -577,21 +596,28 @@ public final class HueAndCry {
 
         private void lookOnward(int first) {
             for (int hour = LAST_HOUR; hour >= first; hour--) {
-                int can = hour == LAST_HOUR ? EVERYWHERE : onward[hour + 1] | departures(hour);
-                onward[hour] = can & allowed[hour];
+                onward[hour] = goesOnAt(hour);
             }
         }
 
-        private int departures(int hour) {
-            int found = 0;
-            for (int road = 0; road < land.roads; road++) {
-                // Who is still on the road behind the last hour has no one left to answer to.
-                int there = Math.min(hour + land.hours[road], HOURS);
-                if (isClear(road, hour, there)) {
-                    found |= land.across(road, there == HOURS ? EVERYWHERE : onward[there]);
-                }
+        private int goesOnAt(int hour) {
+            if (hour == LAST_HOUR) {
+                return allowed[hour];
             }
-            return found;
+            int can = onward[hour + 1];
+            for (int road = 0; road < land.roads; road++) {
+                can |= departuresBy(road, hour);
+            }
+            return can & allowed[hour];
+        }
+
+        private int departuresBy(int road, int hour) {
+            // No fact can forbid where he comes out after the last hour.
+            int there = Math.min(hour + land.hours[road], HOURS);
+            if (!isClear(road, hour, there)) {
+                return 0;
+            }
+            return land.across(road, there == HOURS ? EVERYWHERE : onward[there]);
         }
 
         private boolean isClear(int road, int left, int there) {
@@ -651,8 +677,8 @@ public final class HueAndCry {
 
     /** Seeks the fewest parishes to watch. */
     private static final class Patrol {
-        private final Land land;
-        private final Chase chase;
+        private final Chase chase = new Chase();
+        private final Land land = chase.land;
         private final int[] picks = new int[MOST_WATCHED];
         /**
          * Ways out found so far, as bits of parishes: a row that watches none of a way's
@@ -662,11 +688,6 @@ public final class HueAndCry {
         private int found = 0;
         private int since = 0;
         private int until = 0;
-
-        Patrol(Land land, Chase chase) {
-            this.land = land;
-            this.chase = chase;
-        }
 
         int fewest(int t, int u) {
             since = t;

@@ -100,6 +100,7 @@ public final class PromiseTest {
         promise = 32; reward();
         promise = 33; waive();
         promise = 34; row();
+        promise = 0; allFull();
         System.out.println(wrong == 0 ? "all promises are kept" : wrong + " answers are not as due");
         if (wrong != 0) {
             System.exit(1);
@@ -304,6 +305,11 @@ public final class PromiseTest {
         x.shut(1, false);
         x.guarded(1, 5);
         due("on a road of one hour he never is", x.may(1, 5), 1);
+        HueAndCry twice = land(2, 0, 1, 3);
+        twice.guarded(0, 1);
+        twice.guarded(0, 3);
+        due("two guards of one road", twice.places(5, 0), 1);
+        due("between them he has no time", twice.first(1), 6);
         for (int i = 3; i < 40; i++) {
             due("guarded", x.guarded(0, 0), i);
         }
@@ -888,5 +894,44 @@ public final class PromiseTest {
         x.may(0, 0);
         x.parish(0);
         dueRow("other calls leave it", x, 0, 0);
+    }
+
+    /** With all limits reached no call may run over an edge. */
+    private static void allFull() {
+        HueAndCry x = new HueAndCry();
+        for (int i = 0; i < 24; i++) {
+            x.parish(5);
+            x.exit(i, i > 20);
+        }
+        for (int i = 0; i < 40; i++) {
+            x.road(i % 23, i % 23 + 1, 1 + i % 12);
+            x.guarded(i, i);
+        }
+        for (int i = 0; i < 30; i++) {
+            x.person(i % 24, i, i);
+        }
+        for (int i = 0; i < 12; i++) {
+            x.claim(23, 47);
+        }
+        for (int i = 0; i < 8; i++) {
+            enact(x, "n<99&n<99&n<99&n<99&n<99&n<99&n<99:" + i);
+        }
+        x.begin(0);
+        int[] want = {24, 40, 40, 40, 30, 8, 12, 0, 0, 0};
+        for (int what = 0; what < want.length; what++) {
+            due("count(" + what + ")", x.count(what), want[what]);
+        }
+        due("far", x.far(0, 23), 129);
+        due("many", x.many(5), 30);
+        due("reward, by the first act", x.reward(1000000), 0);
+        due("row", number(x, 11), 0);
+        due("no quarrel", x.quarrel(), -1);
+        due("too far", x.first(12), -1);
+        due("by the slower road, the faster is guarded", x.first(9), 38);
+        due("trail", x.trail(9, 47), 10);
+        due("watch", x.watch(0, 47), 0);
+        x.strike(0, true);
+        due("suspects at the start", x.suspects(0), 2);
+        due("was", x.was(0, 47), 1);
     }
 }
