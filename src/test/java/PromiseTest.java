@@ -560,6 +560,12 @@ public final class PromiseTest {
         dueRow("the row stays", x, 3, 4, 5);
         due("ahead of that one is", x.watch(0, 1), 1);
         dueRow("one", x, 0);
+        HueAndCry last = land(24, 0, 21, 1, 0, 22, 1, 0, 23, 1);
+        for (int p = 21; p < 24; p++) {
+            last.exit(p, true);
+        }
+        due("the last row of all", last.watch(1, 1), 3);
+        dueRow("the last row of all", last, 21, 22, 23);
         HueAndCry two = land(6, 0, 1, 1, 0, 2, 1, 1, 3, 1, 2, 4, 1);
         two.exit(3, true);
         two.exit(4, true);
@@ -933,5 +939,14 @@ public final class PromiseTest {
         x.strike(0, true);
         due("suspects at the start", x.suspects(0), 2);
         due("was", x.was(0, 47), 1);
+        HueAndCry full = land(2);
+        for (int i = 0; i < 40; i++) {
+            full.road(0, 1, 12);
+        }
+        full.seen(1, 5);
+        full.seen(1, 6);
+        due("a quarrel with all roads, and no one fact to mend it", full.quarrel(), 0);
+        full.strike(1, true);
+        due("one fact", full.quarrel(), 1);
     }
 }
