@@ -136,6 +136,15 @@ public final class ChaseBoundsTest extends Bounds {
         due("at 1", x.may(1, 1), 1);
     }
 
+    static void p13_shutRoadsLeadNowhere() {
+        HueAndCry x = line(4);
+        x.begin(3);
+        x.shut(0, true);
+        due("to the first parish", x.may(0, 47), 0);
+        due("as far as the roads are open", x.places(47, 0), 14);
+        due("ahead of the end", x.places(47, 1), 14);
+    }
+
     // ---- promise 14: was
 
     static void p14_firstParish() {
@@ -632,6 +641,47 @@ public final class ChaseBoundsTest extends Bounds {
         due("11 hours", x.quarrel(), 2 | 4);
     }
 
+    static void p18_twoFactsOfOneHour() {
+        for (int hour : new int[] {0, 20, 46, 47}) {
+            HueAndCry x = land(1);
+            x.vain(0, hour);
+            x.vain(0, hour);
+            due("two that forbid hour " + hour, x.quarrel(), 0);
+            HueAndCry y = land(2, 0, 1, 2);
+            y.vain(0, 47);
+            y.vain(1, 47);
+            y.guarded(0, 47);
+            y.guarded(0, 47);
+            due("one of two guards does not mend it", y.quarrel(), 3);
+        }
+    }
+
+    static void p18_leftAtHour0() {
+        for (int hours = 2; hours <= 12; hours++) {
+            HueAndCry x = land(2, 0, 1, hours);
+            x.vain(0, 1);
+            due("on the road", x.quarrel(), NONE);
+            x.guarded(0, 1);
+            due("a road of " + hours + " hours", x.quarrel(), 3);
+        }
+    }
+
+    static void p18_allRoadsFull() {
+        HueAndCry x = land(2);
+        for (int i = 0; i < 39; i++) {
+            x.road(0, 1, 12);
+        }
+        x.road(0, 1, 3);
+        x.vain(0, 1);
+        x.seen(1, 3);
+        due("by the last road", x.quarrel(), NONE);
+        x.guarded(39, 2);
+        due("guarded", x.quarrel(), 4 | 2);
+        x.seen(0, 30);
+        x.seen(1, 30);
+        due("and no one fact to mend it", x.quarrel(), 0);
+    }
+
     // ---- promise 19: watch
 
     static void p19_lowestT() {
@@ -885,5 +935,46 @@ public final class ChaseBoundsTest extends Bounds {
         HueAndCry x = star(24);
         due("no exit", x.watch(0, 47), 0);
         dueRow("no exit", x);
+    }
+
+    static void p19_eachRowOfTwo() {
+        for (int a = 1; a < 23; a++) {
+            for (int b = a + 1; b < 24; b++) {
+                HueAndCry x = star(24);
+                x.exit(b, true);
+                x.exit(a, true);
+                due("exits " + a + ", " + b, x.watch(1, 1), 2);
+                dueRow("exits " + a + ", " + b, x, a, b);
+            }
+        }
+    }
+
+    static void p19_eachRowOfThree() {
+        for (int a = 1; a < 22; a++) {
+            for (int b = a + 1; b < 23; b++) {
+                for (int c = b + 1; c < 24; c++) {
+                    HueAndCry x = star(24);
+                    x.exit(c, true);
+                    x.exit(a, true);
+                    x.exit(b, true);
+                    due("exits " + a + ", " + b + ", " + c, x.watch(1, 1), 3);
+                    dueRow("exits " + a + ", " + b + ", " + c, x, a, b, c);
+                }
+            }
+        }
+    }
+
+    static void p19_whereAllMustPass() {
+        HueAndCry x = land(6, 0, 1, 1, 0, 2, 3, 1, 2, 3, 2, 3, 1, 3, 4, 1, 3, 5, 1);
+        x.exit(4, true);
+        x.exit(5, true);
+        due("one", x.watch(1, 47), 1);
+        dueRow("behind both of the first, ahead of both exits", x, 2);
+        due("he may be there by 3", x.watch(3, 47), 1);
+        dueRow("and is taken", x, 2);
+        due("he may be behind it by 4", x.watch(4, 47), 1);
+        dueRow("at the next", x, 3);
+        due("at an exit by 5", x.watch(5, 47), 2);
+        dueRow("both", x, 4, 5);
     }
 }

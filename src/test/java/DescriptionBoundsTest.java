@@ -346,6 +346,14 @@ public final class DescriptionBoundsTest extends Bounds {
         due("6 below", x.fits(0), 1);
     }
 
+    static void p23_lessOffThanTheBlur() {
+        HueAndCry x = person(20, 0, 0, 0, 0, 0);
+        for (int value = 15; value <= 25; value++) {
+            x.trait(0, value, 5);
+            due("value " + value + ", blur 5", x.fits(0), 0);
+        }
+    }
+
     static void p23_noBlur() {
         HueAndCry x = person(20, 0, 0, 0, 0, 0);
         x.trait(0, 20, 0);

@@ -113,6 +113,19 @@ public final class FactBoundsTest extends Bounds {
         }
     }
 
+    static void p09_twoPlacesAtOnce() {
+        HueAndCry x = land(2, 0, 1, 1);
+        x.seen(0, 5);
+        x.seen(1, 5);
+        due("nowhere", x.places(5, 0), 0);
+        due("either quarrels", x.quarrel(), 3);
+        x.strike(0, true);
+        due("at the second", x.places(5, 0), 2);
+        x.strike(0, false);
+        x.strike(1, true);
+        due("at the first", x.places(5, 0), 1);
+    }
+
     // ---- promise 10: vain
 
     static void p10_firstParish() {
@@ -221,6 +234,22 @@ public final class FactBoundsTest extends Bounds {
         y.vain(1, 5);
         due("nowhere", y.places(5, 0), 0);
         due("a road of two does", y.quarrel(), NONE);
+    }
+
+    static void p10_seenAndLookedForInVain() {
+        HueAndCry x = land(2, 0, 1, 1);
+        x.vain(1, 5);
+        x.seen(1, 5);
+        due("vain ahead of seen", x.quarrel(), 3);
+        HueAndCry y = land(2, 0, 1, 1);
+        y.seen(1, 5);
+        y.vain(1, 5);
+        due("seen ahead of vain", y.quarrel(), 3);
+        HueAndCry z = land(2, 0, 1, 1);
+        z.seen(1, 5);
+        z.vain(0, 5);
+        due("elsewhere they agree", z.quarrel(), NONE);
+        due("he was there", z.places(5, 1), 2);
     }
 
     // ---- promise 11: guarded

@@ -122,6 +122,19 @@ public final class LandBoundsTest extends Bounds {
         due("row of the first", number(x, 0), 7);
     }
 
+    static void p01_all512Calls() {
+        HueAndCry x = line(24);
+        int made = 24 + 1 + 23;
+        x.exit(23, true);
+        x.exit(0, true);
+        made += 2;
+        for (int i = made + 1; i <= 510; i++) {
+            due("call " + i, x.watch(1, 47), 2);
+        }
+        due("call 511", number(x, 1), 1);
+        due("call 512", x.trail(23, 23), 24);
+    }
+
     // ---- promise 2: parish
 
     static void p02_lowestCounty() {

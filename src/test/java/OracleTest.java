@@ -20,6 +20,7 @@ public final class OracleTest {
         for (int seed = 1; seed <= runs; seed++) {
             new Run(seed).go();
         }
+        new Run(0).hardLand();
         System.out.println(wrong == 0 ? "all answers are as the model's" : wrong + " answers differ");
         if (wrong != 0) {
             System.exit(1);
@@ -471,6 +472,27 @@ public final class OracleTest {
             if (dice.nextInt(8) != 0) begin(near(parishes));
             while (calls < 505) {
                 step();
+            }
+        }
+
+        /** A land sought for this: to find whom to watch takes some seventy ways out, more than are kept at once. */
+        void hardLand() {
+            int[] ends = {8, 13, 1, 3, 20, 2, 4, 21, 11, 3, 19, 11, 22, 2, 1, 8, 3, 1, 2, 16, 1, 19, 5, 6, 18, 13, 11, 15, 21, 8,
+                4, 11, 1, 17, 11, 1, 20, 9, 2, 1, 22, 5, 17, 10, 2, 0, 9, 2, 16, 4, 4, 10, 8, 7, 22, 21, 2, 5, 4, 9,
+                23, 21, 2, 11, 14, 5, 2, 4, 6, 0, 20, 12, 11, 7, 2, 13, 5, 4, 9, 18, 5, 16, 1, 5, 17, 13, 7, 16, 21, 4,
+                15, 17, 11, 14, 10, 2, 17, 5, 2, 3, 6, 2, 17, 4, 3, 13, 6, 4, 0, 18, 9, 8, 20, 4, 7, 16, 3, 6, 9, 10};
+            for (int i = 0; i < 24; i++) due("parish(0)", x.parish(0), m.parish(0));
+            for (int i = 0; i < ends.length; i += 3) {
+                due("road", x.road(ends[i], ends[i + 1], ends[i + 2]), m.road(ends[i], ends[i + 1], ends[i + 2]));
+            }
+            begin(0);
+            for (int exit = 22; exit <= 23; exit++) {
+                m.exits.add(exit);
+                due("exit(" + exit + ")", bit(x.exit(exit, true)), 1);
+            }
+            for (int t = 0; t < 4; t++) {
+                due("watch(" + t + ", 47) of the hard land", x.watch(t, 47), m.watch(t, 47));
+                rows();
             }
         }
 

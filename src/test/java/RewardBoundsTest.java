@@ -226,6 +226,20 @@ public final class RewardBoundsTest extends Bounds {
         due("weight(2)", x.weight(2), 0);
     }
 
+    static void p28_digitsAreCountedAnew() {
+        HueAndCry x = claims(3);
+        due("three digits of a weight, and one too much", enact(x, "n=1:1234"), -8);
+        due("three digits of a number", enact(x, "n=002:123"), 0);
+        due("weight(2)", x.weight(2), 123);
+        due("three digits of a number, and one too much", enact(x, "n=1234:1"), -6);
+        due("three digits of both numbers", enact(x, "n=001&h=000:321"), 1);
+        due("weight(1)", x.weight(1), 321);
+        x.repeal();
+        due("behind a repeal", enact(x, "n=001:987"), 0);
+        due("weight(1)", x.weight(1), 987);
+        due("weight(2)", x.weight(2), 0);
+    }
+
     static void p28_theTapeIsEmptyThen() {
         HueAndCry x = new HueAndCry();
         due("an act", enact(x, "n=0:1"), 0);
@@ -686,6 +700,15 @@ public final class RewardBoundsTest extends Bounds {
         enact(x, "n>0:3");
         due("reward(10)", x.reward(10), 10);
         dueRow("of 10 three are left, for claim 1", x, 1, 5, 2, 2);
+    }
+
+    static void p32_lesserWeightsBehindTheGreatest() {
+        HueAndCry x = claims(4);
+        enact(x, "n=1:3");
+        enact(x, "n=3:2");
+        enact(x, "n<9:1");
+        due("reward(10)", x.reward(10), 10);
+        dueRow("weights 1, 3, 1, 2: two are left, for claim 1", x, 1, 6, 1, 2);
     }
 
     static void p32_fewerThanClaims() {
