@@ -389,6 +389,13 @@ public final class ChaseBoundsTest extends Bounds {
         due("later facts don't matter", x.first(1), 4);
     }
 
+    static void p16_factsBehindThatHour() {
+        HueAndCry x = land(2, 0, 1, 2);
+        x.seen(0, 3);
+        due("he has not been there at 2", x.was(1, 2), 0);
+        due("yet he may be", x.first(1), 2);
+    }
+
     static void p16_factsMakeItNever() {
         HueAndCry x = land(2, 0, 1, 1);
         x.vain(0, 0);
@@ -507,6 +514,15 @@ public final class ChaseBoundsTest extends Bounds {
         due("an hour ahead", x.trail(1, 4), 2);
         due("an hour behind", x.trail(1, 6), 2);
         dueRow("told", x, 0, 1);
+    }
+
+    static void p17_factsBehindThatHour() {
+        HueAndCry x = land(2, 0, 1, 2);
+        x.seen(0, 3);
+        due("he has not been there at 2", x.was(1, 2), 0);
+        due("yet he may be", x.trail(1, 2), 2);
+        dueRow("told", x, 0, 1);
+        due("at 3 he may not", x.trail(1, 3), 0);
     }
 
     static void p17_longestOfAll() {

@@ -540,4 +540,13 @@ public final class DescriptionBoundsTest extends Bounds {
         x.seen(1, 47);
         due("not found then, later facts don't matter", x.suspects(24), 1);
     }
+
+    static void p25_factsBehindThatHour() {
+        HueAndCry x = land(2, 0, 1, 2);
+        x.person(1, 0, 0);
+        x.seen(0, 3);
+        due("he has not been there at 2", x.was(1, 2), 0);
+        due("yet he may be", x.suspects(2), 1);
+        due("at 3 he may not", x.suspects(3), 0);
+    }
 }
