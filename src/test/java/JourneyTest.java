@@ -138,24 +138,22 @@ public final class JourneyTest {
 
         void chases() {
             askAll();
-            for (int round = 0; round < 4; round++) {
-                for (int i = 0; i < 5; i++) fact();
+            for (int round = 0; round < 6; round++) {
+                for (int i = 0; i < 4; i++) fact();
                 for (int f = 0; f < facts.size(); f++) struck.set(f, dice.nextInt(4) == 0);
                 askAll();
             }
         }
 
-        /** Mostly one that some journey keeps, that the facts don't quarrel at once. */
+        /** Each is kept or broken by some journey, whichever the dice show, so that some lands have quarrels. */
         private void fact() {
             Journey some = journeys.get(dice.nextInt(journeys.size()));
-            int hour = dice.nextInt(HOURS);
-            int kind = dice.nextInt(5);
-            if (kind == 0 && some.at[hour] < ROAD) {
-                facts.add(new int[] {0, some.at[hour], hour});
-            } else if (kind < 3 || roads.isEmpty()) {
-                facts.add(new int[] {1, dice.nextInt(parishes), hour});
+            int hour = dice.nextInt(5) == 0 ? HOURS - 1 - dice.nextInt(3) : dice.nextInt(HOURS);
+            int at = some.at[hour];
+            if (at >= ROAD) {
+                facts.add(new int[] {2, at - ROAD, hour});
             } else {
-                facts.add(new int[] {2, dice.nextInt(roads.size()), hour});
+                facts.add(new int[] {dice.nextInt(3) == 0 ? 0 : 1, at, hour});
             }
             struck.add(false);
         }
